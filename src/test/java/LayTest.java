@@ -110,6 +110,8 @@ public final class LayTest {
 
     private static void byHeight() {
         dueLaid(wall(1, 1, 9, 2, 2, 1, 1, 1, 9, 2, 2, 1), 4, 3, 0, 0, 0, 2, 0, 1, 1, 0);
+        // With the one of most worth in row 0 the sum would be 5, less than this one's 6, but the height 5.
+        dueLaid(wall(2, 1, 3, 1, 1, 5, 1, 3, 1), 2, 4, 0, 0, 1, 0, 1, 1);
         // A gap below is filled by a later one.
         dueLaid(wall(3, 1, 9, 2, 2, 5, 1, 3, 1), 3, 4, 0, 0, 1, 0, 1, 2);
     }
@@ -125,8 +127,10 @@ public final class LayTest {
     private static void byOrder() {
         dueLaid(wall(1, 1, 4, 1, 1, 4, 1, 1, 4, 1, 1, 4), 2, 2, 0, 0, 0, 1, 1, 0, 1, 1);
         dueLaid(wall(1, 2, 2, 1, 1, 1), 1, 3, 0, 0, 2, 0);
-        // 2 x 0 + 4 x 1 is more than 4 x 0 + 2 x 1, but 2 x 0 + 4 x 1 equals 4 x 0 + 1 x 4.
+        // Either one first makes 4: 4 x 1 or 1 x 4.
         dueLaid(wall(1, 1, 1, 1, 4, 4), 1, 5, 0, 0, 1, 0);
+        // 0, 2, 1 and 2, 0, 1 are as good, and boxes stand elsewhere.
+        dueLaid(wall(2, 2, 4, 1, 2, 3, 1, 1, 5), 3, 3, 0, 0, 1, 2, 0, 2);
     }
 
     private static void roundTheFixed() {
