@@ -61,9 +61,9 @@ public final class GaugeWall {
         for (int k = 0; k < boxes.length; k++) {
             boxes[k] = new Box();
         }
-        planner = new Planner(sources);
+        planner = new Planner();
         atHand = new Plan();
-        laying = new Laying(boxes);
+        laying = new Laying();
         script = new Script();
         draft = new Script();
     }
@@ -213,7 +213,7 @@ public final class GaugeWall {
         if (!isPlannable(set) || h < 1 || h > MOST_PLANNED_TICKS || now + h > TICKS) {
             return NONE;
         }
-        planner.begin(now, h);
+        planner.begin(sources, now, h);
         for (int k = 0; k < boxCount; k++) {
             if ((set >> k & 1) != 0) {
                 planner.choose(boxes[k], k);
@@ -255,7 +255,7 @@ public final class GaugeWall {
             return NONE;
         }
         laid = true;
-        return laying.arrange(boxCount, w);
+        return laying.arrange(boxes, boxCount, w);
     }
 
     public int at(int box, int what) {
@@ -1099,7 +1099,7 @@ public final class GaugeWall {
         // A lease behind the first tick is 0 .. 6, of four boxes.
         private static final int MOST_CODES = 7 * 7 * 7 * 7;
 
-        private final Sources sources;
+        private Sources sources;
         private final Box[] chosen = new Box[MOST_PLANNED_BOXES];
         private final int[] chosenNumbers = new int[MOST_PLANNED_BOXES];
         private final Box[] kept = new Box[MOST_PLANNED_BOXES];
@@ -1118,11 +1118,8 @@ public final class GaugeWall {
         private int start;
         private int ticks;
 
-        Planner(Sources sources) {
-            this.sources = sources;
-        }
-
-        void begin(int now, int h) {
+        void begin(Sources asking, int now, int h) {
+            sources = asking;
             start = now;
             ticks = h;
             chosenCount = 0;
@@ -1359,7 +1356,7 @@ public final class GaugeWall {
         // 36 rows hold all that is fixed, 36 more all that is not.
         private static final int WALL_ROWS = 80;
 
-        private final Box[] boxes;
+        private Box[] boxes;
         private final int[] taken = new int[WALL_ROWS];
         private final int[] rows = new int[MOST_BOXES];
         private final int[] columns = new int[MOST_BOXES];
@@ -1370,12 +1367,9 @@ public final class GaugeWall {
         private int bestHeight;
         private int bestSum;
 
-        Laying(Box[] boxes) {
-            this.boxes = boxes;
-        }
-
-        int arrange(int count, int w) {
-            boxCount = Math.min(count, boxes.length);
+        int arrange(Box[] all, int count, int w) {
+            boxes = all;
+            boxCount = count;
             wallColumns = w;
             bestHeight = Integer.MAX_VALUE;
             bestSum = Integer.MAX_VALUE;

@@ -123,6 +123,8 @@ public final class BoxesTest {
         CHECK.due("own costs of a", x.box(0, 10), 6);
         CHECK.due("own costs of b", x.box(1, 10), 0);
         CHECK.due("own costs of c", x.box(2, 10), 11);
+        GaugeWall y = Check.wallOf("let l=s0+s1;" + Check.box("a", 1, 1, "s5+l*s3+l"));
+        CHECK.due("sources of its E and of its lets", y.box(0, 4), 43);
     }
 
     // Promise 16

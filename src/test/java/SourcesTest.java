@@ -13,6 +13,7 @@ public final class SourcesTest {
         valuesTold();
         factsAreBounded();
         downs();
+        severalDown();
         downsAreBounded();
         asking();
         askingAboveTheBudget();
@@ -125,6 +126,18 @@ public final class SourcesTest {
         for (int n = 0; n < renewed.length; n++) {
             x.tick();
             CHECK.due("ask(3) in tick " + (n + 2), x.ask(3), renewed[n]);
+        }
+    }
+
+    private static void severalDown() {
+        GaugeWall x = Check.wallOf(THREE);
+        x.down(0, 0, 1);
+        x.down(1, 0, 2);
+        x.down(2, 1, 3);
+        int[] renewed = {1, 0, 2, 3};
+        for (int t = 0; t < renewed.length; t++) {
+            CHECK.due("ask(7) in tick " + t, x.ask(7), renewed[t]);
+            x.tick();
         }
     }
 
