@@ -42,16 +42,30 @@ final class Check {
         }
     }
 
-    static void feed(GaugeWall wall, String text) {
+    /** Feeds the text behind what is on the tape; answers how many calls that took. */
+    static int feed(GaugeWall wall, String text) {
+        int calls = 0;
         for (int start = 0; start < text.length(); start += 20) {
-            int[] words = new int[5];
-            for (int i = 0; i < 20; i++) {
-                int c = start + i < text.length() ? text.charAt(start + i) : ' ';
-                words[i / 4] = words[i / 4] << 8 | c & 255;
-            }
+            int[] words = words(text, start);
             wall.feed(words[0], words[1], words[2], words[3], words[4]);
-            wall.back(Math.max(0, start + 20 - text.length()));
+            calls++;
         }
+        int tooMany = calls * 20 - text.length();
+        if (tooMany > 0) {
+            wall.back(tooMany);
+            calls++;
+        }
+        return calls;
+    }
+
+    /** Twenty bytes of the text, with blanks behind its end. */
+    static int[] words(String text, int start) {
+        int[] words = new int[5];
+        for (int i = 0; i < 20; i++) {
+            int c = start + i < text.length() ? text.charAt(start + i) : ' ';
+            words[i / 4] = words[i / 4] << 8 | c & 255;
+        }
+        return words;
     }
 
     static GaugeWall wallOf(String text) {

@@ -10,6 +10,7 @@ public final class RandomTest {
     private final GaugeWall wall = new GaugeWall();
     private final WallModel model = new WallModel();
     private final String run;
+    private int calls;
 
     private RandomTest(Check check, long seed) {
         this.check = check;
@@ -21,29 +22,27 @@ public final class RandomTest {
     public static void main(String[] args) {
         Check check = new Check("RandomTest");
         int first = args.length > 0 ? Integer.parseInt(args[0]) : 0;
-        int runs = args.length > 1 ? Integer.parseInt(args[1]) : 150;
+        int runs = args.length > 1 ? Integer.parseInt(args[1]) : 600;
         for (int seed = first; seed < first + runs; seed++) {
             new RandomTest(check, seed).go();
         }
-        texts(check, first, runs * 100);
+        texts(check, first, runs * 25);
         check.finish();
     }
 
     private static void texts(Check check, int seed, int number) {
         Texts texts = new Texts(new Random(seed));
-        GaugeWall wall = new GaugeWall();
         for (int n = 0; n < number; n++) {
             String text = texts.any();
             TextModel due = new TextModel(text);
-            check.dueFault(wall, text, due.fault, due.place);
+            check.dueFault(text, due.fault, due.place);
         }
     }
 
     private void go() {
         readText(texts.sound(6, 4));
-        int calls = 60 + random.nextInt(300);
         int mostTicks = random.nextInt(3) == 0 ? 30 : 10;
-        for (int n = 0; n < calls; n++) {
+        while (calls < Run.MOST_CALLS) {
             call(mostTicks);
         }
     }
@@ -53,24 +52,23 @@ public final class RandomTest {
     }
 
     private void due(String call, long got, long want) {
-        check.due(run + call, got, want);
+        calls++;
+        if (calls <= Run.MOST_CALLS) {
+            check.due(run + call, got, want);
+        }
     }
 
     private void due(String call, boolean got, boolean want) {
-        check.due(run + call, got, want);
+        due(call, got ? 1 : 0, want ? 1 : 0);
     }
 
     private void readText(String text) {
         for (int start = 0; start < text.length(); start += 20) {
-            int[] words = new int[5];
-            for (int i = 0; i < 20; i++) {
-                int c = start + i < text.length() ? text.charAt(start + i) : ' ';
-                words[i / 4] = words[i / 4] << 8 | c;
-            }
+            int[] words = Check.words(text, start);
             due("feed", wall.feed(words[0], words[1], words[2], words[3], words[4]), model.feed(words));
-            int n = Math.max(0, start + 20 - text.length());
-            due("back", wall.back(n), model.back(n));
         }
+        int tooMany = (20 - text.length() % 20) % 20;
+        due("back", wall.back(tooMany), model.back(tooMany));
         due("read", wall.read(), model.read());
         due("place", wall.place(), model.place());
     }
@@ -157,11 +155,12 @@ public final class RandomTest {
     private void lay() {
         int w = random.nextInt(4) == 0 ? some(10) : 5 + random.nextInt(4);
         due("lay(" + w + ")", wall.lay(w), model.lay(w));
-        for (int k = -1; k < 7; k++) {
-            for (int what = -1; what < 3; what++) {
-                due("at(" + k + ", " + what + ")", wall.at(k, what), model.at(k, what));
-            }
+        for (int n = 0; n < 14; n++) {
+            due("at(" + n / 2 + ", " + n % 2 + ")", wall.at(n / 2, n % 2), model.at(n / 2, n % 2));
         }
+        int k = some(7);
+        int what = some(4);
+        due("at(" + k + ", " + what + ")", wall.at(k, what), model.at(k, what));
     }
 
     private void questions(int k) {
@@ -180,9 +179,8 @@ public final class RandomTest {
     }
 
     private void counts() {
-        for (int what = 0; what < 10; what++) {
-            due("count(" + what + ")", wall.count(what), model.count(what));
-        }
+        int what = random.nextInt(10);
+        due("count(" + what + ")", wall.count(what), model.count(what));
         int odd = some(12);
         due("count(" + odd + ")", wall.count(odd), model.count(odd));
     }

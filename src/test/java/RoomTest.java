@@ -7,6 +7,8 @@ public final class RoomTest {
     private static final ThreadMXBean THREADS = (ThreadMXBean) ManagementFactory.getThreadMXBean();
 
     private static final int OBJECT_BYTES = 200_000;
+    // 18 calls a round, 504 in all.
+    private static final int ROUNDS = 28;
 
     public static void main(String[] args) {
         run(new GaugeWall());
@@ -15,14 +17,15 @@ public final class RoomTest {
         long made = THREADS.getCurrentThreadAllocatedBytes();
         run(x);
         long end = THREADS.getCurrentThreadAllocatedBytes();
-        System.out.println("RoomTest: an object takes " + (made - start) + " bytes, 300 rounds of calls " + (end - made));
+        System.out.println("RoomTest: an object takes " + (made - start) + " bytes, " + ROUNDS + " rounds of calls "
+            + (end - made));
         CHECK.due("bytes of an object above what is fine", Math.max(0, made - start - OBJECT_BYTES), 0);
         CHECK.due("bytes of the calls above what the count itself takes", Math.max(0, end - made - 1000), 0);
         CHECK.finish();
     }
 
     private static void run(GaugeWall x) {
-        for (int n = 0; n < 300; n++) {
+        for (int n = 0; n < ROUNDS; n++) {
             // "box b worth 1 fresh 2 size 1 1=s0;"
             x.feed(0x626f7820, 0x6220776f, 0x72746820, 0x31206672, 0x65736820);
             x.feed(0x32207369, 0x7a652031, 0x20313d73, 0x303b2020, 0x20202020);
